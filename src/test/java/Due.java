@@ -1,0 +1,109 @@
+/** Compares answers with those that are due, and makes objects that stand where a test begins. */
+final class Due {
+    private static int wrong = 0;
+
+    private Due() {
+    }
+
+    static void is(String call, int got, int want) {
+        if (got != want) {
+            wrong++;
+            System.out.println(call + " answered " + got + ", due is " + want);
+        }
+    }
+
+    static void is(String call, boolean got, boolean want) {
+        is(call, got ? 1 : 0, want ? 1 : 0);
+    }
+
+    /** The end of a test's main: exit code 1 if an answer was wrong. */
+    static void end() {
+        System.out.println(wrong == 0 ? "all answers are as due" : wrong + " answers are not as due");
+        if (wrong != 0) {
+            System.exit(1);
+        }
+    }
+
+    /** Feeds a text, filled up with blanks to whole feeds; its own length. */
+    static int feed(RopeRace x, String text) {
+        StringBuilder padded = new StringBuilder(text);
+        while (padded.length() % 20 != 0) {
+            padded.append(' ');
+        }
+        for (int i = 0; i < padded.length(); i += 20) {
+            x.feed(word(padded, i), word(padded, i + 4), word(padded, i + 8), word(padded, i + 12), word(padded, i + 16));
+        }
+        return text.length();
+    }
+
+    private static int word(CharSequence text, int at) {
+        return text.charAt(at) << 24 | text.charAt(at + 1) << 16 | text.charAt(at + 2) << 8 | text.charAt(at + 3);
+    }
+
+    static int tell(RopeRace x, String text, int year) {
+        return x.statute(feed(x, text), year);
+    }
+
+    /** A new object with a statute from year 0 on, wards, and horses of these marks. */
+    static RopeRace town(String text, int wards, int... marks) {
+        RopeRace x = new RopeRace();
+        is("statute " + text, tell(x, text, 0), 0);
+        for (int i = 0; i < wards; i++) {
+            x.ward();
+        }
+        for (int mark : marks) {
+            x.horse(mark);
+        }
+        return x;
+    }
+
+    /** Chooses, picks and draws lots. */
+    static void prepare(RopeRace x) {
+        is("choose", x.choose(1) >= 2, true);
+        is("pick", x.pick() >= 0, true);
+        is("lots", x.lots(seedInOrder(x)), true);
+    }
+
+    /** A seed by which every ward that runs draws the first horse left and every place the first ward left. */
+    private static int seedInOrder(RopeRace x) {
+        int run = 0;
+        while (x.drawn(0, run) != RopeRace.NONE) {
+            run++;
+        }
+        int[] draws = new int[2 * run];
+        for (int i = 0; i < run; i++) {
+            draws[i] = -(run - i);
+            draws[run + i] = -(run - i);
+        }
+        return seed(draws);
+    }
+
+    /** The least seed whose draws are so: k asks for a number that isn't 0 modulo k, -k for one that is. */
+    static int seed(int... draws) {
+        for (int seed = 0; seed < 200_000_000; seed++) {
+            if (fits(seed, draws)) {
+                return seed;
+            }
+        }
+        throw new IllegalStateException("no such seed");
+    }
+
+    private static boolean fits(int seed, int[] draws) {
+        int x = seed;
+        for (int draw : draws) {
+            x = x * 1103515245 + 12345;
+            int number = x >>> 16 & 0x7fff;
+            if (number % Math.abs(draw) == 0 != draw < 0) {
+                return false;
+            }
+        }
+        return true;
+    }
+
+    /** A seed by which no runner loses pace in its first n draws. */
+    static int calm(int n) {
+        int[] draws = new int[n];
+        java.util.Arrays.fill(draws, 8);
+        return seed(draws);
+    }
+}
