@@ -803,6 +803,10 @@ public final class RopeRace {
             return arrivedAs == NONE;
         }
 
+        boolean isCloseAheadOf(Runner other) {
+            return dist == other.dist + 1 || dist == other.dist + 2;
+        }
+
         boolean goesAheadOf(Runner other) {
             return dist > other.dist || dist == other.dist && lane < other.lane;
         }
@@ -914,36 +918,19 @@ public final class RopeRace {
         }
 
         private void followOrders(Runner runner) {
-            if (runner.ward < 0 || runner.ward >= MOST_WARDS) {
-                return;
-            }
-            int how = orderHow[runner.ward];
+            int how = runner.ward >= 0 && runner.ward < MOST_WARDS ? orderHow[runner.ward] : NO_ORDERS;
             Runner other = how == NO_ORDERS ? null : find(orderOther[runner.ward]);
-            if (other == null || !other.onRing() || !isCloseBehind(runner, other)) {
+            if (other == null || !other.onRing() || !runner.isCloseAheadOf(other)) {
                 return;
             }
-            if (how == HINDER) {
-                hinder(runner, other);
-            } else {
-                help(runner, other);
+            int lane = runner.lane;
+            if (how == HINDER && Math.abs(lane - other.lane) == 1 && isFree(runner.dist, other.lane)) {
+                lane = other.lane;
+            } else if (how == HELP && lane == other.lane) {
+                lane = laneBeside(runner.dist, lane);
             }
-        }
-
-        private static boolean isCloseBehind(Runner runner, Runner other) {
-            int gap = runner.dist - other.dist;
-            return gap == 1 || gap == 2;
-        }
-
-        private void hinder(Runner runner, Runner other) {
-            if (Math.abs(runner.lane - other.lane) == 1 && isFree(runner.dist, other.lane)) {
-                runner.lane = other.lane;
-            }
-        }
-
-        private void help(Runner runner, Runner other) {
-            if (runner.lane == other.lane) {
-                int beside = laneBeside(runner.dist, runner.lane);
-                runner.lane = beside == NONE ? runner.lane : beside;
+            if (lane != NONE) {
+                runner.lane = lane;
             }
         }
 
@@ -998,10 +985,9 @@ public final class RopeRace {
         }
 
         private boolean isFree(int dist, int lane) {
-            int cell = cellOf(dist);
-            for (int i = 0; i < size; i++) {
+            for (int i = 0; i < size && cells > 0; i++) {
                 Runner runner = runners[i];
-                if (runner.onRing() && runner.lane == lane && cellOf(runner.dist) == cell) {
+                if (runner.onRing() && runner.lane == lane && (runner.dist - dist) % cells == 0) {
                     return false;
                 }
             }
@@ -1009,12 +995,8 @@ public final class RopeRace {
         }
 
         private boolean isBend(int dist) {
-            int cell = cellOf(dist);
+            int cell = cells > 0 ? Math.floorMod(dist, cells) : NONE;
             return cell >= 0 && cell < MOST_CELLS && bends[cell];
-        }
-
-        private int cellOf(int dist) {
-            return cells > 0 ? Math.floorMod(dist, cells) : 0;
         }
     }
 

@@ -26,18 +26,20 @@ final class Due {
 
     /** Feeds a text, filled up with blanks to whole feeds; its own length. */
     static int feed(RopeRace x, String text) {
-        StringBuilder padded = new StringBuilder(text);
-        while (padded.length() % 20 != 0) {
-            padded.append(' ');
-        }
-        for (int i = 0; i < padded.length(); i += 20) {
-            x.feed(word(padded, i), word(padded, i + 4), word(padded, i + 8), word(padded, i + 12), word(padded, i + 16));
+        int[] w = words(text);
+        for (int i = 0; i < w.length; i += 5) {
+            x.feed(w[i], w[i + 1], w[i + 2], w[i + 3], w[i + 4]);
         }
         return text.length();
     }
 
-    private static int word(CharSequence text, int at) {
-        return text.charAt(at) << 24 | text.charAt(at + 1) << 16 | text.charAt(at + 2) << 8 | text.charAt(at + 3);
+    /** A text as numbers of four bytes, filled up with blanks to whole feeds. */
+    static int[] words(String text) {
+        int[] words = new int[(text.length() + 19) / 20 * 5];
+        for (int i = 0; i < words.length * 4; i++) {
+            words[i / 4] = words[i / 4] << 8 | (i < text.length() ? text.charAt(i) : ' ');
+        }
+        return words;
     }
 
     static int tell(RopeRace x, String text, int year) {

@@ -44,7 +44,7 @@ public final class FaceTest {
             if (!Modifier.isPrivate(method.getModifiers())) {
                 Due.is(method.getName() + " is public, not static", method.getModifiers(), Modifier.PUBLIC);
                 String types = Arrays.toString(method.getParameterTypes());
-                open.add(method.getReturnType() + " " + method.getName() + "(" + types.substring(1, types.length() - 1) + ")");
+                open.add(method.getReturnType() + " " + method.getName() + types.replace('[', '(').replace(']', ')'));
             }
         }
         if (!open.equals(FACE)) {
@@ -76,8 +76,9 @@ public final class FaceTest {
             Due.is(each + " has at most twenty fields", fields <= 20, true);
             for (Method method : each.getDeclaredMethods()) {
                 Due.is(method + " has at most seven parameters", method.getParameterCount() <= 7, true);
-                boolean bearsPublicName = FACE.stream().anyMatch(face -> face.contains(" " + method.getName() + "("));
-                Due.is(method + " bears a public one's name", bearsPublicName && !Modifier.isPublic(method.getModifiers()), false);
+                boolean isPublicName = FACE.stream().anyMatch(face -> face.contains(" " + method.getName() + "("));
+                Due.is(method + " bears a public one's name",
+                        isPublicName && !Modifier.isPublic(method.getModifiers()), false);
             }
         }
     }

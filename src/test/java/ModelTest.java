@@ -144,16 +144,9 @@ public final class ModelTest {
 
     private void tell(String text, int year) {
         Due.feed(x, text);
-        StringBuilder padded = new StringBuilder(text);
-        while (padded.length() % 20 != 0) {
-            padded.append(' ');
-        }
-        for (int i = 0; i < padded.length(); i += 20) {
-            int[] numbers = new int[5];
-            for (int j = 0; j < 20; j++) {
-                numbers[j / 4] = numbers[j / 4] << 8 | padded.charAt(i + j);
-            }
-            m.feed(numbers[0], numbers[1], numbers[2], numbers[3], numbers[4]);
+        int[] w = Due.words(text);
+        for (int i = 0; i < w.length; i += 5) {
+            m.feed(w[i], w[i + 1], w[i + 2], w[i + 3], w[i + 4]);
             calls++;
         }
         int n = chance(97) ? text.length() : near(text.length() + 1);

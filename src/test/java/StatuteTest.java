@@ -100,6 +100,11 @@ public final class StatuteTest {
         fault("jump 1;", 1, 0);
         fault("  ru 2;", 1, 2);
         fault("runs 2;", 1, 0);
+        fault("sun 2;", 1, 0);
+        fault("runz 2;", 1, 0);
+        fault("runa 2;", 1, 0);
+        fault(" ".repeat(597) + "run", 1, 600);
+        fault(" ".repeat(598) + "ru", 1, 598);
         fault("runlaps 2;", 1, 0);
         fault("Run 2;", 1, 0);
         fault("runX 2;", 1, 3);
