@@ -1,12 +1,9 @@
 /** Promises 22 to 25: pact, punish, next, count. */
 public final class AfterRaceTest {
     public static void main(String[] args) {
-        pactBounds();
         pactsArePaid();
         pactsWaitForARace();
-        punishBounds();
         barsGrow();
-        barOfTheLastYear();
         nextYears();
         counts();
         Due.end();
@@ -17,23 +14,6 @@ public final class AfterRaceTest {
         Due.prepare(x);
         Due.is("drop", x.drop(Due.calm(20)), 0);
         return x;
-    }
-
-    private static void pactBounds() {
-        RopeRace x = Due.town("run 2;", 2, 0, 0);
-        Due.is("both the same", x.pact(1, 1, 5), -1);
-        Due.is("no such ward", x.pact(2, 1, 5), -1);
-        Due.is("no such ward", x.pact(-1, 1, 5), -1);
-        Due.is("no such other", x.pact(1, 2, 5), -1);
-        Due.is("no such other", x.pact(1, -1, 5), -1);
-        Due.is("n 0", x.pact(0, 1, 0), -1);
-        Due.is("n 10000", x.pact(0, 1, 10000), -1);
-        Due.is("n 9999", x.pact(0, 1, 9999), 1);
-        for (int i = 2; i <= 40; i++) {
-            Due.is("pact " + i, x.pact(0, 1, 1), i);
-        }
-        Due.is("one more", x.pact(0, 1, 1), -1);
-        Due.is("count(5)", x.count(5), 40);
     }
 
     private static void pactsArePaid() {
@@ -77,25 +57,6 @@ public final class AfterRaceTest {
         Due.is("but they are gone", x.count(5), 0);
     }
 
-    private static void punishBounds() {
-        RopeRace x = Due.town("run 2; bar 2;", 3, 0, 0);
-        Due.is("ahead of all", x.punish(0), -2);
-        Due.prepare(x);
-        Due.is("ahead of the race", x.punish(0), -2);
-        x.drop(1);
-        Due.is("in the race", x.punish(0), -2);
-        x.go(400);
-        Due.is("one that didn't run", x.punish(2), -2);
-        Due.is("no such ward", x.punish(3), -2);
-        Due.is("no such ward", x.punish(-1), -2);
-        Due.is("punish(1)", x.punish(1), 2);
-        Due.is("look(1, 2)", x.look(1, 2), 2);
-        Due.is("look(0, 2)", x.look(0, 2), -1);
-        x.next();
-        Due.is("in the next year", x.punish(0), -2);
-        Due.is("look(1, 2) in the next year", x.look(1, 2), 2);
-    }
-
     private static void barsGrow() {
         RopeRace x = racing("run 2;");
         x.go(400);
@@ -111,17 +72,6 @@ public final class AfterRaceTest {
         Due.is("a later year's bar", x.punish(1), -1);
         Due.tell(x, "bar 9;", 0);
         Due.is("more than it was", x.punish(0), 9);
-    }
-
-    private static void barOfTheLastYear() {
-        RopeRace x = Due.town("run 2; bar 9;", 2, 0, 0);
-        for (int year = 1; year <= 99; year++) {
-            x.next();
-        }
-        Due.prepare(x);
-        x.drop(1);
-        x.go(400);
-        Due.is("bar is counted on behind year 99", x.punish(0), 108);
     }
 
     private static void nextYears() {

@@ -1,14 +1,20 @@
 /** Compares answers with those that are due, and makes objects that stand where a test begins. */
 final class Due {
     private static int wrong = 0;
+    private static String sentence = "";
 
     private Due() {
+    }
+
+    /** Begins the test of a sentence of the document: what is wrong from here on is told with it. */
+    static void sentence(String words) {
+        sentence = "[" + words + "] ";
     }
 
     static void is(String call, int got, int want) {
         if (got != want) {
             wrong++;
-            System.out.println(call + " answered " + got + ", due is " + want);
+            System.out.println(sentence + call + " answered " + got + ", due is " + want);
         }
     }
 
@@ -59,11 +65,62 @@ final class Due {
         return x;
     }
 
+    /**
+     * A town of three wards of which two run, so far in its first year as count(1) numbers it: 0 nothing .. 5 over.
+     * Bends, orders, a pact and a tape with bytes make it show later if a call has changed one of them.
+     */
+    static RopeRace stage(int far) {
+        RopeRace x = town("run 2; bend 1; bar 2;", 3, 0, 100, 300);
+        x.ring(12);
+        x.bend(5, true);
+        x.orders(0, 1, 1);
+        x.orders(1, 2, 0);
+        x.pact(0, 2, 50);
+        x.pact(1, 2, 70);
+        feed(x, "laps 2; loose 1;");
+        if (far >= 1) {
+            x.choose(1);
+        }
+        if (far >= 2) {
+            x.pick();
+        }
+        if (far >= 3) {
+            x.lots(1);
+        }
+        if (far >= 4) {
+            x.drop(1);
+            x.go(far == 4 ? 2 : 400);
+        }
+        is("how far the year is", x.count(1), far);
+        return x;
+    }
+
+    /** Numbers on both sides of what may be said: the next ones and the farthest. */
+    static int[] beyond(int least, int most) {
+        return new int[] {Integer.MIN_VALUE, least - 1, most + 1, Integer.MAX_VALUE};
+    }
+
     /** Chooses, picks and draws lots: of up to five, ward k gets the k-th horse picked and the k-th place. */
     static void prepare(RopeRace x) {
         is("choose", x.choose(1) >= 2, true);
         is("pick", x.pick() >= 0, true);
         is("lots", x.lots(seedInOrder(x)), true);
+    }
+
+    /** A race of as many wards as marks on a ring of these cells: of up to five, ward k is at place k. */
+    static RopeRace started(String text, int cells, int seed, int... marks) {
+        RopeRace x = town(text, marks.length, marks);
+        x.ring(cells);
+        prepare(x);
+        is("drop", x.drop(seed), 0);
+        return x;
+    }
+
+    /** Where a runner is, and its pace. */
+    static void at(String when, RopeRace x, int ward, int dist, int lane, int pace) {
+        is(when + ": DIST of " + ward, x.race(ward, 0), dist);
+        is(when + ": LANE of " + ward, x.race(ward, 1), lane);
+        is(when + ": PACE of " + ward, x.race(ward, 2), pace);
     }
 
     /** A seed by which each draws the first one left; of more than five that takes too long to find. */
@@ -103,6 +160,22 @@ final class Due {
             }
         }
         return true;
+    }
+
+    /** The least seed whose draws are so: pairs of a modulus and its remainder. */
+    static int seedOf(int... draws) {
+        for (int seed = 0; seed < 200_000_000; seed++) {
+            int x = seed;
+            boolean fits = true;
+            for (int i = 0; i < draws.length && fits; i += 2) {
+                x = x * 1103515245 + 12345;
+                fits = (x >>> 16 & 0x7fff) % draws[i] == draws[i + 1];
+            }
+            if (fits) {
+                return seed;
+            }
+        }
+        throw new IllegalStateException("no such seed");
     }
 
     /** A seed by which no runner loses pace in its first n draws. */

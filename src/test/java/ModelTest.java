@@ -2,8 +2,9 @@ import java.util.Random;
 
 /** Long runs of mixed calls: every answer and all that can be looked at is compared with PlainModel's. */
 public final class ModelTest {
-    private static final int RUNS = 300;
+    private static final int RUNS = 800;
     private static final int CALLS = 512;
+    private static final int MOST_OF_A_STEP = 50;
     private static final String[] TOKENS = {"run", "laps", "bend", "loose", "bar", "apart", "false"};
     private static final int[] LEAST = {2, 1, 1, 0, 0, 0, 0};
     private static final int[] MOST = {10, 5, 9, 1, 9, 9, 9};
@@ -74,7 +75,7 @@ public final class ModelTest {
                     + below(4) + ";laps" + (1 + below(5)) + ";loose" + below(2) + ";", 0);
             due("ring", x.ring(12), m.ring(12));
         }
-        while (calls < CALLS - 20) {
+        while (calls < CALLS - MOST_OF_A_STEP) {
             if (chance(35)) {
                 stepOfTheYear();
             } else if (chance(70)) {
@@ -116,12 +117,10 @@ public final class ModelTest {
 
     private void go(int n) {
         due("go " + n, x.go(n), m.go(n));
-        for (int k = 0; k < 10 && calls < CALLS - 70; k++) {
+        int what = below(6);
+        for (int k = 0; m.drawn(0, k) >= 0; k++) {
             int ward = m.drawn(0, k);
-            for (int what = 0; what < 6 && ward >= 0; what++) {
-                // Not counted as calls of the run: the answers change nothing.
-                Due.is(run + calls + ": race " + ward + " " + what, x.race(ward, what), m.race(ward, what));
-            }
+            due("race " + ward + " " + what, x.race(ward, what), m.race(ward, what));
         }
         due("won", x.won(), m.won());
     }
@@ -263,16 +262,16 @@ public final class ModelTest {
     }
 
     private void lookAtAll() {
+        int what = below(5);
         for (int ward = 0; ward < 17; ward++) {
-            for (int what = 0; what < 5; what++) {
-                Due.is(run + calls + ": look " + ward + " " + what, x.look(ward, what), m.look(ward, what));
-            }
+            due("look " + ward + " " + what, x.look(ward, what), m.look(ward, what));
         }
-        for (int k = 0; k < 30; k++) {
-            Due.is(run + calls + ": drawn " + k, x.drawn(k / 10, k % 10), m.drawn(k / 10, k % 10));
+        int row = below(3);
+        for (int k = 0; k < 10; k++) {
+            due("drawn " + row + " " + k, x.drawn(row, k), m.drawn(row, k));
         }
-        for (int what = 0; what < 8; what++) {
-            Due.is(run + calls + ": count " + what, x.count(what), m.count(what));
+        for (int of = 0; of < 8; of++) {
+            due("count " + of, x.count(of), m.count(of));
         }
     }
 }

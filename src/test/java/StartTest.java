@@ -1,34 +1,12 @@
 /** Promises 14 to 18: ring, bend, orders, seen, drop. */
 public final class StartTest {
     public static void main(String[] args) {
-        rings();
         bends();
-        ordersBounds();
-        seenBounds();
         startThatCounts();
         falseStarts();
         falseStartsByLawOfNow();
         toTheEndOfTheRope();
         Due.end();
-    }
-
-    private static void rings() {
-        RopeRace x = Due.town("run 2;", 2, 1, 2);
-        Due.is("ring(11)", x.ring(11), false);
-        Due.is("ring(61)", x.ring(61), false);
-        Due.is("ring(-1)", x.ring(-1), false);
-        Due.is("count(7)", x.count(7), 20);
-        Due.is("ring(60)", x.ring(60), true);
-        Due.is("count(7)", x.count(7), 60);
-        Due.is("ring(12)", x.ring(12), true);
-        Due.is("count(7)", x.count(7), 12);
-        Due.prepare(x);
-        Due.is("ring ahead of the race", x.ring(13), true);
-        x.drop(1);
-        Due.is("ring in the race", x.ring(14), false);
-        Due.is("count(7)", x.count(7), 13);
-        x.go(400);
-        Due.is("ring behind the race", x.ring(14), true);
     }
 
     /** Both horses come to cell 1 with a pace of 1, to cell 3 with 2; draws say that a rider would fall. */
@@ -62,43 +40,6 @@ public final class StartTest {
         x.bend(3, true);
         Due.is("the same ring anew", x.ring(12), true);
         Due.is("without bends", fallsInTwoTicks(x), 0);
-    }
-
-    private static void ordersBounds() {
-        RopeRace x = Due.town("run 2;", 3, 1, 2);
-        for (int how = 1; how <= 2; how++) {
-            Due.is("orders(0, " + how + ", 2)", x.orders(0, how, 2), true);
-            Due.is("both the same", x.orders(1, how, 1), false);
-            Due.is("no such ward", x.orders(3, how, 0), false);
-            Due.is("no such ward", x.orders(-1, how, 0), false);
-            Due.is("no such other", x.orders(0, how, 3), false);
-            Due.is("no such other", x.orders(0, how, -1), false);
-        }
-        Due.is("none", x.orders(0, 0, 77), true);
-        Due.is("none, and itself", x.orders(0, 0, 0), true);
-        Due.is("none of no such ward", x.orders(3, 0, 0), false);
-        Due.is("how 3", x.orders(0, 3, 1), false);
-        Due.is("how -1", x.orders(0, -1, 1), false);
-    }
-
-    private static void seenBounds() {
-        RopeRace x = Due.town("run 2; apart 2;", 3, 1, 2);
-        x.choose(1);
-        x.pick();
-        Due.is("seen ahead of lots", x.seen(0, 0), false);
-        x.lots(1);
-        Due.is("seen(-1, 0)", x.seen(-1, 0), false);
-        Due.is("seen(2, 0)", x.seen(2, 0), false);
-        Due.is("a ward that doesn't run", x.seen(0, 2), false);
-        Due.is("no such ward", x.seen(0, 3), false);
-        Due.is("no such ward", x.seen(0, -1), false);
-        Due.is("seen(1, 0)", x.seen(1, 0), true);
-        x.drop(1);
-        Due.is("seen in the race", x.seen(0, 0), false);
-        x.go(400);
-        Due.is("seen behind the race", x.seen(0, 0), false);
-        x.next();
-        Due.is("seen in the next year", x.seen(0, 0), false);
     }
 
     private static void startThatCounts() {

@@ -1,16 +1,13 @@
-/** Promises 9 to 13: choose, pick, lots, drawn, look. */
+/** Promises 6 to 13, in ordinary years: horses that are sound, choose, pick, lots, drawn, look. */
 public final class YearTest {
     public static void main(String[] args) {
-        chooseRefused();
         chooseByRight();
         chooseByLot();
         chooseWithoutBarred();
         pickEven();
         pickFirstSet();
-        pickRefused();
+        pickSound();
         drawLots();
-        drawnBounds();
-        lookBounds();
         Due.end();
     }
 
@@ -19,22 +16,6 @@ public final class YearTest {
             Due.is(what + ": drawn(" + kind + ", " + k + ")", x.drawn(kind, k), want[k]);
         }
         Due.is(what + ": drawn(" + kind + ") behind the last", x.drawn(kind, want.length), -1);
-    }
-
-    private static void chooseRefused() {
-        RopeRace x = new RopeRace();
-        Due.is("choose without wards", x.choose(1), -1);
-        x.ward();
-        Due.is("choose with one", x.choose(1), -1);
-        Due.is("count(1)", x.count(1), 0);
-        x.ward();
-        Due.is("choose with two, fewer than run", x.choose(1), 2);
-        Due.is("count(1)", x.count(1), 1);
-        Due.is("choose once more", x.choose(1), -1);
-        x.ward();
-        row("a later ward doesn't run", x, 0, 0, 1);
-        x.next();
-        Due.is("choose of the next year", x.choose(1), 3);
     }
 
     private static void runYear(RopeRace x) {
@@ -68,30 +49,15 @@ public final class YearTest {
         // run 3: one by lot, among wards 2 .. 5; run 6 of 9: two by lot, among 4 .. 8.
         for (int k = 0; k < 4; k++) {
             RopeRace x = Due.town("run 3;", 6);
-            Due.is("choose", x.choose(seedOf(4, k)), 3);
+            Due.is("choose", x.choose(Due.seedOf(4, k)), 3);
             row("lot " + k, x, 0, 0, 1, 2 + k);
         }
         RopeRace x = Due.town("run 6;", 9);
-        Due.is("choose", x.choose(seedOf(5, 3, 4, 0)), 6);
+        Due.is("choose", x.choose(Due.seedOf(5, 3, 4, 0)), 6);
         row("two by lot", x, 0, 0, 1, 2, 3, 4, 7);
         x = Due.town("run 5;", 5);
         Due.is("choose", x.choose(7), 5);
         row("all run", x, 0, 0, 1, 2, 3, 4);
-    }
-
-    /** The least seed whose draws are so: pairs of a modulus and its remainder. */
-    private static int seedOf(int... draws) {
-        for (int seed = 0; ; seed++) {
-            int x = seed;
-            boolean fits = true;
-            for (int i = 0; i < draws.length && fits; i += 2) {
-                x = x * 1103515245 + 12345;
-                fits = (x >>> 16 & 0x7fff) % draws[i] == draws[i + 1];
-            }
-            if (fits) {
-                return seed;
-            }
-        }
     }
 
     private static void chooseWithoutBarred() {
@@ -155,16 +121,16 @@ public final class YearTest {
         row("first three", z, 1, 0, 1, 3);
     }
 
-    private static void pickRefused() {
-        RopeRace x = Due.town("run 3;", 3, 1, 2);
-        Due.is("pick ahead of choose", x.pick(), -1);
+    private static void pickSound() {
+        RopeRace x = Due.town("run 2;", 2, 10, 20, 900);
+        x.sound(1, false);
         x.choose(1);
-        Due.is("pick of too few", x.pick(), -1);
-        Due.is("count(1)", x.count(1), 1);
-        Due.is("lots ahead of pick", x.lots(1), false);
-        x.horse(3);
-        Due.is("pick", x.pick(), 2);
-        Due.is("count(1)", x.count(1), 2);
+        Due.is("pick", x.pick(), 890);
+        row("pick", x, 1, 0, 2);
+        x.sound(2, false);
+        row("one that is sound no more stays picked", x, 1, 0, 2);
+        Due.is("lots", x.lots(1), true);
+        Due.is("both horses are drawn", x.look(0, 0) + x.look(1, 0), 2);
     }
 
     private static void drawLots() {
@@ -173,7 +139,7 @@ public final class YearTest {
         Due.is("lots ahead of choose", x.lots(1), false);
         x.choose(1);
         x.pick();
-        Due.is("lots", x.lots(seedOf(3, 2, 2, 1, 1, 0, 3, 1, 2, 0)), true);
+        Due.is("lots", x.lots(Due.seedOf(3, 2, 2, 1, 1, 0, 3, 1, 2, 0)), true);
         Due.is("look(0, 0)", x.look(0, 0), 3);
         Due.is("look(1, 0)", x.look(1, 0), 2);
         Due.is("look(2, 0)", x.look(2, 0), 1);
@@ -183,42 +149,5 @@ public final class YearTest {
         x.next();
         Due.is("the horse is gone", x.look(0, 0), -1);
         row("no places", x, 2);
-    }
-
-    private static void drawnBounds() {
-        RopeRace x = Due.town("run 2;", 3, 1, 2);
-        row("nothing", x, 0);
-        x.choose(1);
-        row("chosen", x, 0, 0, 1);
-        row("not picked", x, 1);
-        row("no lots", x, 2);
-        x.pick();
-        row("picked", x, 1, 0, 1);
-        row("no lots", x, 2);
-        x.lots(1);
-        Due.is("drawn(2, 0) and (2, 1)", x.drawn(2, 0) + x.drawn(2, 1), 1);
-        Due.is("drawn(0, -1)", x.drawn(0, -1), -1);
-        Due.is("drawn(2, 10)", x.drawn(2, 10), -1);
-        Due.is("drawn(-1, 0)", x.drawn(-1, 0), -1);
-        Due.is("drawn(3, 0)", x.drawn(3, 0), -1);
-        x.drop(1);
-        x.go(400);
-        row("behind the race", x, 0, 0, 1);
-        x.next();
-        row("gone", x, 0);
-        row("gone", x, 1);
-        row("gone", x, 2);
-    }
-
-    private static void lookBounds() {
-        RopeRace x = Due.town("run 2;", 2, 1, 2);
-        int[] first = {-1, -1, -1, 0, 0};
-        for (int what = 0; what < first.length; what++) {
-            Due.is("look(1, " + what + ")", x.look(1, what), first[what]);
-        }
-        Due.is("look(1, 5)", x.look(1, 5), -1);
-        Due.is("look(1, -1)", x.look(1, -1), -1);
-        Due.is("look(2, 4)", x.look(2, 4), -1);
-        Due.is("look(-1, 4)", x.look(-1, 4), -1);
     }
 }
