@@ -21,6 +21,7 @@ public final class TickEdgesTest {
         helpInAnotherLane();
         helpTooFar();
         noOrdersWithoutARider();
+        drawsWrapRound();
         paceMost();
         paceLeast();
         nextCellInOwnLane();
@@ -367,6 +368,20 @@ public final class TickEdgesTest {
             x.orders(0, how, 1);
             x.go(1);
             Due.is("LANE with how " + how, x.race(0, 1), 0);
+        }
+    }
+
+    private static void drawsWrapRound() {
+        Due.sentence("Promise 18: the race's draws by a seed; Terms 2: 32 bits, round");
+        // By hand: 16769, 422, 5237, 5514, 9960, 3867: the fifth alone is 0 modulo 8. Bit 31 of a seed never shows.
+        for (int seed : new int[] {-987654321, -987654321 ^ Integer.MIN_VALUE}) {
+            RopeRace x = Due.started("run 2;", 20, seed, 0, 0);
+            x.go(2);
+            Due.at("tick 2", x, 0, 3, 0, 2);
+            Due.at("tick 2", x, 1, 3, 1, 2);
+            x.go(1);
+            Due.at("tick 3 loses pace", x, 0, 5, 0, 2);
+            Due.at("tick 3", x, 1, 6, 1, 3);
         }
     }
 
